@@ -1,0 +1,386 @@
+/** The sixteen rules, told by the checker: a cycle too soon, and just in time. */
+public final class RulesTest {
+    private static final int OPEN = 0;
+    private static final int CLOSE = 1;
+    private static final int READ = 2;
+    private static final int WRITE = 3;
+    private static final int REFRESH = 4;
+    private static final Due DUE = new Due("RulesTest");
+
+    public static void main(String[] args) {
+        rule1();
+        rule2();
+        rule3();
+        rule4();
+        rule5();
+        rule6();
+        rule7();
+        rule8();
+        rule9();
+        rule10();
+        rule11();
+        rule12();
+        rule13();
+        rule14();
+        rule15();
+        rule16();
+        orderOfOpen();
+        orderOfClose();
+        orderOfAccess();
+        orderOfRefresh();
+        refusedOnesAreNotGiven();
+        firstValuesOfTheTimes();
+        timesAreThoseAtTheCall();
+        DUE.end();
+    }
+
+    /** A checker all of whose times are 1, but for one. */
+    private static BankScheduler with(int which, int value) {
+        BankScheduler x = new BankScheduler(8, 1, 1);
+        for (int i = 0; i < 10; i++) {
+            x.time(i, 1);
+        }
+        x.time(which, value);
+        return x;
+    }
+
+    private static void at(BankScheduler x, int cycle, int command, int bank, int row, int want) {
+        x.pause(cycle - x.pause(0));
+        String what = "in cycle " + cycle + " check(" + command + ", " + bank + ", " + row + ")";
+        DUE.answer(what, x.check(command, bank, row), want);
+    }
+
+    private static void rule1() {
+        BankScheduler x = with(0, 1);
+        at(x, 0, OPEN, 0, 5, 0);
+        at(x, 500, OPEN, 0, 6, 1);
+        at(x, 501, OPEN, 0, 5, 1);
+        at(x, 502, CLOSE, 0, 0, 0);
+        at(x, 503, OPEN, 0, 5, 0);
+    }
+
+    private static void rule2() {
+        BankScheduler x = with(1, 20);
+        at(x, 0, OPEN, 0, 0, 0);
+        at(x, 1, OPEN, 1, 0, 0);
+        at(x, 2, CLOSE, 1, 0, 0);
+        at(x, 7, CLOSE, 0, 0, 0);
+        at(x, 21, OPEN, 1, 0, 2);
+        at(x, 22, OPEN, 1, 0, 0);
+        at(x, 26, OPEN, 0, 0, 2);
+        at(x, 27, OPEN, 0, 0, 0);
+    }
+
+    private static void rule3() {
+        BankScheduler x = with(3, 20);
+        at(x, 5, OPEN, 0, 0, 0);
+        at(x, 6, OPEN, 1, 0, 0);
+        at(x, 7, CLOSE, 0, 0, 0);
+        at(x, 24, OPEN, 0, 0, 3);
+        at(x, 25, OPEN, 0, 0, 0);
+    }
+
+    private static void rule4() {
+        BankScheduler x = with(7, 10);
+        at(x, 0, OPEN, 3, 0, 0);
+        at(x, 1, CLOSE, 3, 0, 0);
+        at(x, 2, OPEN, 3, 0, 0);
+        at(x, 11, OPEN, 0, 0, 4);
+        at(x, 12, OPEN, 0, 0, 0);
+        at(x, 13, CLOSE, 3, 0, 0);
+        at(x, 14, CLOSE, 0, 0, 0);
+        at(x, 21, OPEN, 3, 0, 4);
+        at(x, 22, OPEN, 3, 0, 0);
+        at(x, 31, OPEN, 7, 0, 4);
+        at(x, 32, OPEN, 7, 0, 0);
+    }
+
+    private static void rule5() {
+        BankScheduler x = with(8, 20);
+        at(x, 0, OPEN, 0, 0, 0);
+        at(x, 1, OPEN, 1, 0, 0);
+        at(x, 2, CLOSE, 1, 0, 0);
+        at(x, 3, OPEN, 1, 0, 0);
+        at(x, 9, OPEN, 2, 0, 0);
+        at(x, 19, OPEN, 3, 0, 5);
+        at(x, 20, OPEN, 3, 0, 0);
+        at(x, 21, OPEN, 4, 0, 0);
+        at(x, 22, OPEN, 5, 0, 5);
+        at(x, 23, OPEN, 5, 0, 0);
+        at(x, 28, OPEN, 6, 0, 5);
+        at(x, 29, OPEN, 6, 0, 0);
+        at(x, 39, OPEN, 7, 0, 5);
+        at(x, 40, OPEN, 7, 0, 0);
+    }
+
+    private static void rule6() {
+        BankScheduler x = with(9, 20);
+        at(x, 0, OPEN, 0, 0, 0);
+        at(x, 1, CLOSE, 0, 0, 0);
+        at(x, 2, REFRESH, 0, 0, 0);
+        at(x, 21, OPEN, 0, 0, 6);
+        at(x, 22, OPEN, 0, 0, 0);
+        at(x, 23, OPEN, 1, 0, 0);
+    }
+
+    private static void rule7() {
+        BankScheduler x = with(0, 1);
+        at(x, 0, CLOSE, 0, 0, 7);
+        at(x, 1, OPEN, 0, 0, 0);
+        at(x, 2, CLOSE, 1, 0, 7);
+        at(x, 3, CLOSE, 0, 0, 0);
+        at(x, 4, CLOSE, 0, 0, 7);
+    }
+
+    private static void rule8() {
+        BankScheduler x = with(2, 20);
+        at(x, 0, OPEN, 0, 0, 0);
+        at(x, 5, OPEN, 1, 0, 0);
+        at(x, 19, CLOSE, 0, 0, 8);
+        at(x, 20, CLOSE, 0, 0, 0);
+        at(x, 24, CLOSE, 1, 0, 8);
+        at(x, 25, CLOSE, 1, 0, 0);
+    }
+
+    private static void rule9() {
+        BankScheduler x = with(4, 20);
+        at(x, 0, OPEN, 0, 7, 0);
+        at(x, 1, OPEN, 1, 8, 0);
+        at(x, 2, WRITE, 1, 8, 0);
+        at(x, 4, WRITE, 0, 7, 0);
+        at(x, 5, READ, 0, 7, 0);
+        at(x, 21, CLOSE, 1, 0, 9);
+        at(x, 22, CLOSE, 1, 0, 0);
+        at(x, 23, CLOSE, 0, 0, 9);
+        at(x, 24, CLOSE, 0, 0, 0);
+    }
+
+    private static void rule10() {
+        BankScheduler x = with(5, 20);
+        at(x, 0, OPEN, 0, 7, 0);
+        at(x, 1, OPEN, 1, 8, 0);
+        at(x, 2, READ, 1, 8, 0);
+        at(x, 4, READ, 0, 7, 0);
+        at(x, 5, WRITE, 0, 7, 0);
+        at(x, 21, CLOSE, 1, 0, 10);
+        at(x, 22, CLOSE, 1, 0, 0);
+        at(x, 23, CLOSE, 0, 0, 10);
+        at(x, 24, CLOSE, 0, 0, 0);
+    }
+
+    private static void rule11() {
+        BankScheduler x = with(0, 1);
+        at(x, 0, READ, 0, 0, 11);
+        at(x, 1, WRITE, 0, 0, 11);
+        at(x, 2, OPEN, 0, 3, 0);
+        at(x, 3, READ, 0, 4, 11);
+        at(x, 4, WRITE, 0, 2, 11);
+        at(x, 5, READ, 1, 3, 11);
+        at(x, 6, READ, 0, 3, 0);
+        at(x, 7, WRITE, 0, 3, 0);
+        at(x, 8, CLOSE, 0, 3, 0);
+        at(x, 9, READ, 0, 3, 11);
+    }
+
+    private static void rule12() {
+        for (int command : new int[] {READ, WRITE}) {
+            BankScheduler x = with(0, 20);
+            at(x, 0, OPEN, 0, 3, 0);
+            at(x, 7, OPEN, 1, 3, 0);
+            at(x, 19, command, 0, 3, 12);
+            at(x, 20, command, 0, 3, 0);
+            at(x, 26, command, 1, 3, 12);
+            at(x, 27, command, 1, 3, 0);
+        }
+    }
+
+    private static void rule13() {
+        for (int first : new int[] {READ, WRITE}) {
+            for (int second : new int[] {READ, WRITE}) {
+                BankScheduler x = with(6, 20);
+                at(x, 0, OPEN, 0, 3, 0);
+                at(x, 1, OPEN, 1, 4, 0);
+                at(x, 2, first, 0, 3, 0);
+                at(x, 21, second, 1, 4, 13);
+                at(x, 22, second, 1, 4, 0);
+                at(x, 41, first, 1, 4, 13);
+                at(x, 42, first, 1, 4, 0);
+            }
+        }
+    }
+
+    private static void rule14() {
+        for (int bank = 0; bank < 8; bank++) {
+            BankScheduler x = with(0, 1);
+            at(x, 0, OPEN, bank, 0, 0);
+            at(x, 900, REFRESH, 0, 0, 14);
+            at(x, 901, CLOSE, bank, 0, 0);
+            at(x, 902, REFRESH, 0, 0, 0);
+        }
+    }
+
+    private static void rule15() {
+        for (int bank = 0; bank < 8; bank++) {
+            BankScheduler x = with(1, 20);
+            int other = (bank + 3) % 8;
+            at(x, 0, OPEN, bank, 0, 0);
+            at(x, 1, OPEN, other, 0, 0);
+            at(x, 2, CLOSE, other, 0, 0);
+            at(x, 7, CLOSE, bank, 0, 0);
+            at(x, 26, REFRESH, 0, 0, 15);
+            at(x, 27, REFRESH, 0, 0, 0);
+        }
+    }
+
+    private static void rule16() {
+        BankScheduler x = with(9, 20);
+        at(x, 3, REFRESH, 0, 0, 0);
+        at(x, 22, REFRESH, 0, 0, 16);
+        at(x, 23, REFRESH, 0, 0, 0);
+        at(x, 42, REFRESH, 0, 0, 16);
+        at(x, 43, REFRESH, 0, 0, 0);
+    }
+
+    /** Six rules are broken at once, and end one after the other. */
+    private static void orderOfOpen() {
+        BankScheduler x = with(0, 1);
+        at(x, 0, OPEN, 1, 0, 0);
+        at(x, 1, OPEN, 2, 0, 0);
+        at(x, 2, OPEN, 3, 0, 0);
+        at(x, 3, OPEN, 0, 0, 0);
+        at(x, 4, OPEN, 0, 0, 1);
+        at(x, 5, CLOSE, 1, 0, 0);
+        at(x, 6, CLOSE, 2, 0, 0);
+        at(x, 7, CLOSE, 3, 0, 0);
+        at(x, 8, CLOSE, 0, 0, 0);
+        at(x, 9, REFRESH, 0, 0, 0);
+        x.time(1, 3);
+        x.time(3, 10);
+        x.time(7, 13);
+        x.time(8, 17);
+        x.time(9, 10);
+        at(x, 10, OPEN, 0, 0, 2);
+        at(x, 11, OPEN, 0, 0, 3);
+        at(x, 12, OPEN, 0, 0, 3);
+        at(x, 13, OPEN, 0, 0, 4);
+        at(x, 14, OPEN, 0, 0, 4);
+        at(x, 15, OPEN, 0, 0, 5);
+        at(x, 16, OPEN, 0, 0, 5);
+        at(x, 17, OPEN, 0, 0, 6);
+        at(x, 18, OPEN, 0, 0, 6);
+        at(x, 19, OPEN, 0, 0, 0);
+    }
+
+    private static void orderOfClose() {
+        BankScheduler x = with(0, 1);
+        at(x, 0, OPEN, 0, 0, 0);
+        at(x, 1, WRITE, 0, 0, 0);
+        at(x, 2, READ, 0, 0, 0);
+        x.time(2, 5);
+        x.time(4, 6);
+        x.time(5, 7);
+        at(x, 3, CLOSE, 0, 0, 8);
+        at(x, 4, CLOSE, 0, 0, 8);
+        at(x, 5, CLOSE, 0, 0, 9);
+        at(x, 6, CLOSE, 0, 0, 9);
+        at(x, 7, CLOSE, 0, 0, 10);
+        at(x, 8, CLOSE, 0, 0, 10);
+        at(x, 9, CLOSE, 0, 0, 0);
+        at(x, 10, CLOSE, 0, 0, 7);
+    }
+
+    private static void orderOfAccess() {
+        BankScheduler x = with(0, 1);
+        at(x, 0, OPEN, 0, 0, 0);
+        at(x, 1, OPEN, 1, 0, 0);
+        at(x, 2, READ, 0, 0, 0);
+        x.time(0, 4);
+        x.time(6, 5);
+        at(x, 3, WRITE, 1, 1, 11);
+        at(x, 4, WRITE, 1, 0, 12);
+        at(x, 5, WRITE, 1, 0, 13);
+        at(x, 6, WRITE, 1, 0, 13);
+        at(x, 7, WRITE, 1, 0, 0);
+    }
+
+    private static void orderOfRefresh() {
+        BankScheduler x = with(0, 1);
+        at(x, 0, REFRESH, 0, 0, 0);
+        at(x, 1, OPEN, 0, 0, 0);
+        at(x, 2, OPEN, 1, 0, 0);
+        at(x, 3, CLOSE, 1, 0, 0);
+        x.time(1, 3);
+        x.time(9, 9);
+        at(x, 4, REFRESH, 0, 0, 14);
+        at(x, 5, CLOSE, 0, 0, 0);
+        at(x, 7, REFRESH, 0, 0, 15);
+        at(x, 8, REFRESH, 0, 0, 16);
+        at(x, 9, REFRESH, 0, 0, 0);
+    }
+
+    private static void refusedOnesAreNotGiven() {
+        BankScheduler x = with(7, 10);
+        at(x, 0, OPEN, 0, 0, 0);
+        at(x, 5, OPEN, 1, 0, 4);
+        at(x, 6, READ, 1, 0, 11);
+        at(x, 10, OPEN, 1, 9, 0);
+        at(x, 11, OPEN, 1, 3, 1);
+        at(x, 12, READ, 1, 9, 0);
+        BankScheduler y = with(9, 10);
+        at(y, 0, REFRESH, 0, 0, 0);
+        at(y, 9, REFRESH, 0, 0, 16);
+        at(y, 10, OPEN, 0, 0, 0);
+        DUE.answer("the controller knows nothing of it", y.figure(8), -1);
+    }
+
+    private static void firstValuesOfTheTimes() {
+        BankScheduler x = new BankScheduler(8, 1, 1);
+        at(x, 0, OPEN, 0, 0, 0);
+        at(x, 1, OPEN, 1, 0, 4);
+        at(x, 2, READ, 0, 0, 12);
+        at(x, 3, WRITE, 0, 0, 0);
+        at(x, 4, READ, 0, 0, 13);
+        at(x, 5, CLOSE, 0, 0, 8);
+        at(x, 6, OPEN, 1, 0, 0);
+        at(x, 7, CLOSE, 0, 0, 9);
+        at(x, 8, CLOSE, 0, 0, 0);
+        at(x, 9, READ, 1, 0, 0);
+        at(x, 10, OPEN, 0, 0, 2);
+        at(x, 11, OPEN, 0, 0, 0);
+        at(x, 13, OPEN, 2, 0, 0);
+        at(x, 17, READ, 1, 0, 0);
+        at(x, 18, CLOSE, 1, 0, 10);
+        at(x, 19, CLOSE, 1, 0, 0);
+        at(x, 20, CLOSE, 2, 0, 0);
+        at(x, 21, CLOSE, 0, 0, 0);
+        at(x, 23, REFRESH, 0, 0, 15);
+        at(x, 24, REFRESH, 0, 0, 0);
+        at(x, 31, REFRESH, 0, 0, 16);
+        at(x, 31 + 1, OPEN, 0, 0, 0);
+        at(x, 34, OPEN, 1, 0, 0);
+        at(x, 36, OPEN, 2, 0, 0);
+        at(x, 38, OPEN, 3, 0, 0);
+        at(x, 43, OPEN, 4, 0, 5);
+        at(x, 44, OPEN, 4, 0, 0);
+        BankScheduler y = new BankScheduler(8, 1, 1);
+        at(y, 0, OPEN, 0, 0, 0);
+        at(y, 5, CLOSE, 0, 0, 8);
+        at(y, 6, CLOSE, 0, 0, 0);
+        y.time(1, 1);
+        at(y, 8, OPEN, 0, 0, 3);
+        at(y, 9, OPEN, 0, 0, 0);
+        BankScheduler z = new BankScheduler(1, 1, 1);
+        at(z, 0, REFRESH, 0, 0, 0);
+        at(z, 7, OPEN, 0, 0, 6);
+        at(z, 8, OPEN, 0, 0, 0);
+    }
+
+    private static void timesAreThoseAtTheCall() {
+        BankScheduler x = with(0, 1);
+        at(x, 0, OPEN, 0, 0, 0);
+        x.time(0, 20);
+        at(x, 10, READ, 0, 0, 12);
+        x.time(0, 11);
+        at(x, 11, READ, 0, 0, 0);
+    }
+}

@@ -41,7 +41,7 @@ public final class BankScheduler {
     private static final int NONE = -1;
     private static final int ALLOWED = 0;
     // above every cycle, so that the one comparison of result() refuses what was not given
-    private static final int NOT_GIVEN = Integer.MAX_VALUE;
+    private static final int NOT_GIVEN = 0x7fffffff;
 
     private final int patience;
     private final int[] times;

@@ -25,7 +25,7 @@ public final class FaceTest {
             "pause(int) IllegalArgumentException");
     private static final List<String> NOT_IN_SOURCE = List.of(
             "import ", "package ", "->", "::", "finally", "synchronized", "assert ", "static {",
-            "Exact(", "System.out", "equals(", "hashCode(", "toString(");
+            "Exact(", "Integer.", "System.out", "equals(", "hashCode(", "toString(");
     private static final Due DUE = new Due("FaceTest");
 
     public static void main(String[] args) throws IOException {

@@ -90,7 +90,24 @@ public final class PromisesTest {
         DUE.answer("patience 0: no OPEN of the other's bank", x.run(2), 0);
         DUE.answer("patience 0: READ", x.tick(), 3000);
         DUE.answer("patience 0: then the other", x.tick(), 1100);
+        patienceIsAtLeastOne();
         patienceIsAtMostThousand();
+    }
+
+    private static void patienceIsAtLeastOne() {
+        int[][] late = {{LOW, 1}, {0, 1}, {1, 1}, {2, 0}};
+        for (int[] pair : late) {
+            BankScheduler x = new BankScheduler(1, 2, pair[0]);
+            x.time(0, 1);
+            x.time(6, 1);
+            x.read(0, 0, 0);
+            x.tick();
+            DUE.answer("READ one behind", x.tick(), 3000);
+            // this one is given in the cycle in which it came, so it is late for no patience
+            x.read(0, 0, 0);
+            DUE.answer("READ at once", x.tick(), 3000);
+            DUE.answer("late with patience " + pair[0], x.figure(7), pair[1]);
+        }
     }
 
     /** With such times request 9 of twelve is given in cycle 1000: see lateOfSlowOnes(). */

@@ -24,6 +24,7 @@ public final class RulesTest {
         rule14();
         rule15();
         rule16();
+        noTimeIsBehindNoCommand();
         orderOfOpen();
         orderOfClose();
         orderOfAccess();
@@ -239,6 +240,25 @@ public final class RulesTest {
         at(x, 23, REFRESH, 0, 0, 0);
         at(x, 42, REFRESH, 0, 0, 16);
         at(x, 43, REFRESH, 0, 0, 0);
+    }
+
+    /** Where there was no such command before, its time is not asked for, in early cycles too. */
+    private static void noTimeIsBehindNoCommand() {
+        for (int which = 0; which < 10; which++) {
+            BankScheduler x = with(which, 20);
+            at(x, 0, which % 2 == 0 ? OPEN : REFRESH, 0, 0, 0);
+        }
+        for (int which : new int[] {1, 3, 4, 5, 6, 7, 8, 9}) {
+            BankScheduler x = with(which, 20);
+            at(x, 0, OPEN, 0, 0, 0);
+            at(x, 1, which == 5 ? WRITE : which == 4 ? READ : CLOSE, 0, 0, 0);
+        }
+        for (int which : new int[] {4, 5}) {
+            BankScheduler x = with(which, 20);
+            at(x, 0, OPEN, 0, 0, 0);
+            at(x, 1, CLOSE, 0, 0, 0);
+            at(x, 2, REFRESH, 0, 0, 0);
+        }
     }
 
     /** Six rules are broken at once, and end one after the other. */

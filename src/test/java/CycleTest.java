@@ -22,6 +22,12 @@ public final class CycleTest {
         impatientOneKeepsItsRow();
         impatienceYieldsToRefreshing();
         refreshingMayStarve();
+        refreshingStartsInItsCycle();
+        patienceEndsInItsCycle();
+        opensByEveryTime();
+        closesByEveryTime();
+        accessesByEveryTime();
+        refreshesByEveryTime();
         DUE.end();
     }
 
@@ -274,5 +280,162 @@ public final class CycleTest {
         DUE.answer("nothing but REFRESH", x.run(2000), 100);
         DUE.answer("by its count", x.figure(5), 100);
         DUE.answer("the request waits", x.figure(6), 1);
+    }
+
+    /** "when T is time 10 or more behind": a cycle before it there is none. */
+    private static void refreshingStartsInItsCycle() {
+        for (int every : new int[] {20, 21, 59, 60, 61, 199, 200}) {
+            BankScheduler x = new BankScheduler(1, 2, 1000);
+            x.time(6, 1);
+            x.time(10, every);
+            x.read(0, 1, 0);
+            x.run(every - 1);
+            x.read(0, 1, 1);
+            x.read(0, 1, 2);
+            ticks("a hit in the last cycle before", x, 3001);
+            ticks("no hit any more", x, 0, 2000, 0, 0, 5000);
+            DUE.answer("the last REFRESH", x.figure(8), every + 4);
+            DUE.answer("the other waits", x.figure(6), 1);
+            // OPEN is 8 behind the REFRESH, READ 3 behind that
+            DUE.answer("until there is time", x.run(every - 2), 2);
+            ticks("and nothing in the last cycle before", x, 0);
+            ticks("the next REFRESH is due", x, 2000, 0, 0, 5000);
+        }
+    }
+
+    /** "or just the oldest one, when T is A or more behind the cycle in which it came" */
+    private static void patienceEndsInItsCycle() {
+        for (int patience : new int[] {1, 2, 3, 4, 5, 10, 19, 20, 21, 22, 50, 100, 130}) {
+            BankScheduler x = new BankScheduler(2, 12, patience);
+            x.time(0, 20);
+            x.time(6, 1);
+            x.time(10, 200);
+            x.write(1, 0, 0, 1);
+            x.run(21);
+            x.read(0, 5, 0);
+            for (int behind = 0; behind < patience; behind++) {
+                x.write(1, 0, 0, 1);
+                ticks("a hit, patience " + patience, x, 4100);
+            }
+            x.write(1, 0, 0, 1);
+            ticks("no more, patience " + patience, x, 1005);
+            DUE.answer("nor until it is given", x.run(19), 0);
+            ticks("READ, patience " + patience, x, 3005);
+            // the first of all was given 20 behind its cycle
+            DUE.answer("late, patience " + patience, x.figure(7), patience <= 20 ? 2 : 1);
+            ticks("then the other", x, 4100);
+        }
+    }
+
+    /** What is given from the present cycle on, as "cycle:answer". */
+    private static String given(BankScheduler x, int cycles) {
+        StringBuilder text = new StringBuilder();
+        int cycle = x.figure(0);
+        for (int i = 0; i < cycles; i++) {
+            int answer = x.tick();
+            if (answer != 0) {
+                text.append(text.length() == 0 ? "" : " ").append(cycle + i).append(':').append(answer);
+            }
+        }
+        return text.toString();
+    }
+
+    private static void gives(String what, BankScheduler x, int cycles, String want) {
+        String got = given(x, cycles);
+        DUE.holds(what + " gives " + got + ", due is " + want, got.equals(want));
+    }
+
+    /** A controller all of whose times are 1, but for one; a REFRESH is due in 200. */
+    private static BankScheduler with(int which, int value) {
+        BankScheduler x = new BankScheduler(8, 12, 1000);
+        for (int i = 0; i < 10; i++) {
+            x.time(i, 1);
+        }
+        x.time(10, 200);
+        x.time(which, value);
+        return x;
+    }
+
+    private static BankScheduler withTwoRows(int which, int value) {
+        BankScheduler x = with(which, value);
+        x.read(0, 0, 0);
+        x.read(0, 1, 0);
+        return x;
+    }
+
+    private static void opensByEveryTime() {
+        for (int v = 1; v <= 20; v++) {
+            gives("time 1 of " + v, withTwoRows(1, v), 50,
+                    "0:1000 1:3000 2:2000 " + (2 + v) + ":1001 " + (3 + v) + ":3001");
+            int behindOpen = Math.max(3, v);
+            gives("time 3 of " + v, withTwoRows(3, v), 50,
+                    "0:1000 1:3000 2:2000 " + behindOpen + ":1001 " + (behindOpen + 1) + ":3001");
+            BankScheduler others = with(7, v);
+            others.time(0, 20);
+            others.read(0, 0, 0);
+            others.read(1, 0, 0);
+            // in cycle 20 a hit goes first
+            int other = v == 20 ? 21 : v;
+            String way = other + ":1100";
+            gives("time 7 of " + v, others, 50, "0:1000 "
+                    + (v == 20 ? "20:3000 " + way : way + " 20:3000") + " " + (other + 20) + ":3100");
+            BankScheduler four = with(8, v);
+            four.time(0, 20);
+            for (int bank = 0; bank < 5; bank++) {
+                four.read(bank, 0, 0);
+            }
+            gives("time 8 of " + v, four, v == 20 ? 20 : Math.max(4, v) + 1,
+                    "0:1000 1:1100 2:1200 3:1300" + (v == 20 ? "" : " " + Math.max(4, v) + ":1400"));
+        }
+    }
+
+    private static void closesByEveryTime() {
+        for (int v = 1; v <= 20; v++) {
+            int close = Math.max(2, v);
+            gives("time 2 of " + v, withTwoRows(2, v), 50, "0:1000 1:3000 " + close + ":2000 "
+                    + (close + 1) + ":1001 " + (close + 2) + ":3001");
+            gives("time 5 of " + v, withTwoRows(5, v), 50, "0:1000 1:3000 " + (1 + v) + ":2000 "
+                    + (2 + v) + ":1001 " + (3 + v) + ":3001");
+            BankScheduler written = with(4, v);
+            written.write(0, 0, 0, 1);
+            written.read(0, 1, 0);
+            gives("time 4 of " + v, written, 50, "0:1000 1:4000 " + (1 + v) + ":2000 "
+                    + (2 + v) + ":1001 " + (3 + v) + ":3001");
+        }
+    }
+
+    private static void accessesByEveryTime() {
+        for (int v = 1; v <= 20; v++) {
+            BankScheduler opened = with(0, v);
+            opened.read(0, 0, 0);
+            gives("time 0 of " + v, opened, 50, "0:1000 " + v + ":3000");
+            BankScheduler two = with(6, v);
+            two.read(0, 0, 0);
+            two.write(0, 0, 1, 1);
+            two.write(0, 0, 2, 1);
+            two.read(0, 0, 1);
+            gives("time 6 of " + v, two, 80, "0:1000 1:3000 " + (1 + v) + ":4000 " + (1 + 2 * v)
+                    + ":4000 " + (1 + 3 * v) + ":3000");
+        }
+    }
+
+    private static void refreshesByEveryTime() {
+        for (int v = 1; v <= 20; v++) {
+            BankScheduler behind = with(9, v);
+            behind.run(200);
+            behind.read(0, 0, 0);
+            gives("time 9 of " + v, behind, 50,
+                    "200:5000 " + (200 + v) + ":1000 " + (201 + v) + ":3000");
+            BankScheduler closed = with(1, v);
+            closed.read(0, 0, 0);
+            closed.run(200);
+            gives("time 1 of " + v + " for REFRESH", closed, 50, "200:2000 " + (200 + v) + ":5000");
+            // it is opened in the last cycle before REFRESHING, and then waits in vain
+            BankScheduler open = with(2, v);
+            open.run(199);
+            open.read(0, 0, 0);
+            gives("time 2 of " + v + " for REFRESH", open, v + 2,
+                    "199:1000 " + (199 + v) + ":2000 " + (200 + v) + ":5000");
+        }
     }
 }

@@ -1,5 +1,13 @@
 /** Counts the answers of a test that are not the ones that are due, and tells each of them. */
 final class Due {
+    static final Class<IndexOutOfBoundsException> INDEX = IndexOutOfBoundsException.class;
+    static final Class<IllegalArgumentException> ARGUMENT = IllegalArgumentException.class;
+    static final Class<IllegalStateException> STATE = IllegalStateException.class;
+    static final Class<UnsupportedOperationException> UNSUPPORTED =
+            UnsupportedOperationException.class;
+    static final int LOW = Integer.MIN_VALUE;
+    static final int HIGH = Integer.MAX_VALUE;
+
     interface Call {
         int go();
     }

@@ -7,6 +7,44 @@ public final class RulesTest {
     private static final int REFRESH = 4;
     private static final Due DUE = new Due("RulesTest");
 
+    /**
+     * A rule with a time. The commands before it are given in the cycles 0, 1, ..; the one that it
+     * tells of is given in the cycle `earlier`.
+     */
+    private record Timed(int rule, int which, int earlier, int[][] before, int[] command) {
+    }
+
+    private static final Timed[] TIMED = {
+        new Timed(2, 1, 1, new int[][] {{OPEN, 0}, {CLOSE, 0}}, new int[] {OPEN, 0}),
+        new Timed(3, 3, 0, new int[][] {{OPEN, 0}, {CLOSE, 0}}, new int[] {OPEN, 0}),
+        new Timed(4, 7, 0, new int[][] {{OPEN, 1}}, new int[] {OPEN, 0}),
+        new Timed(4, 7, 0, new int[][] {{OPEN, 0}, {CLOSE, 0}}, new int[] {OPEN, 7}),
+        new Timed(5, 8, 0, new int[][] {{OPEN, 1}, {OPEN, 2}, {OPEN, 3}, {OPEN, 4}},
+                new int[] {OPEN, 0}),
+        new Timed(5, 8, 1, new int[][] {{OPEN, 1}, {OPEN, 2}, {OPEN, 3}, {OPEN, 4}, {OPEN, 5}},
+                new int[] {OPEN, 0}),
+        new Timed(5, 8, 0, new int[][] {{OPEN, 0}, {CLOSE, 0}, {OPEN, 0}, {CLOSE, 0}, {OPEN, 0},
+                {CLOSE, 0}, {OPEN, 0}, {CLOSE, 0}}, new int[] {OPEN, 0}),
+        new Timed(6, 9, 0, new int[][] {{REFRESH, 0}}, new int[] {OPEN, 0}),
+        new Timed(6, 9, 1, new int[][] {{REFRESH, 0}, {REFRESH, 0}}, new int[] {OPEN, 7}),
+        new Timed(8, 2, 0, new int[][] {{OPEN, 0}}, new int[] {CLOSE, 0}),
+        new Timed(9, 4, 1, new int[][] {{OPEN, 0}, {WRITE, 0}}, new int[] {CLOSE, 0}),
+        new Timed(9, 4, 2, new int[][] {{OPEN, 0}, {WRITE, 0}, {WRITE, 0}}, new int[] {CLOSE, 0}),
+        new Timed(10, 5, 1, new int[][] {{OPEN, 0}, {READ, 0}}, new int[] {CLOSE, 0}),
+        new Timed(10, 5, 2, new int[][] {{OPEN, 0}, {READ, 0}, {READ, 0}}, new int[] {CLOSE, 0}),
+        new Timed(12, 0, 0, new int[][] {{OPEN, 0}}, new int[] {READ, 0}),
+        new Timed(12, 0, 0, new int[][] {{OPEN, 0}}, new int[] {WRITE, 0}),
+        new Timed(13, 6, 1, new int[][] {{OPEN, 0}, {READ, 0}}, new int[] {READ, 0}),
+        new Timed(13, 6, 1, new int[][] {{OPEN, 0}, {READ, 0}}, new int[] {WRITE, 0}),
+        new Timed(13, 6, 1, new int[][] {{OPEN, 0}, {WRITE, 0}}, new int[] {READ, 0}),
+        new Timed(13, 6, 2, new int[][] {{OPEN, 0}, {OPEN, 1}, {WRITE, 1}}, new int[] {WRITE, 0}),
+        new Timed(13, 6, 2, new int[][] {{OPEN, 0}, {OPEN, 1}, {READ, 1}}, new int[] {READ, 0}),
+        new Timed(15, 1, 1, new int[][] {{OPEN, 0}, {CLOSE, 0}}, new int[] {REFRESH, 0}),
+        new Timed(15, 1, 3, new int[][] {{OPEN, 0}, {OPEN, 7}, {CLOSE, 0}, {CLOSE, 7}},
+                new int[] {REFRESH, 0}),
+        new Timed(16, 9, 0, new int[][] {{REFRESH, 0}}, new int[] {REFRESH, 0}),
+    };
+
     public static void main(String[] args) {
         rule1();
         rule2();
@@ -24,7 +62,9 @@ public final class RulesTest {
         rule14();
         rule15();
         rule16();
+        everyValueOfEveryTime();
         noTimeIsBehindNoCommand();
+        commandsOfOthersDoNotCount();
         orderOfOpen();
         orderOfClose();
         orderOfAccess();
@@ -242,6 +282,30 @@ public final class RulesTest {
         at(x, 43, REFRESH, 0, 0, 0);
     }
 
+    /** "at least so many cycles (a time) behind": a cycle less is too soon, for all of 1 .. 20. */
+    private static void everyValueOfEveryTime() {
+        for (Timed timed : TIMED) {
+            for (int value = 1; value <= 20; value++) {
+                justInTime(timed, value);
+            }
+        }
+    }
+
+    private static void justInTime(Timed timed, int value) {
+        BankScheduler x = with(0, 1);
+        int next = 0;
+        for (int[] given : timed.before) {
+            at(x, next, given[0], given[1], 0, 0);
+            next++;
+        }
+        x.time(timed.which, value);
+        int due = timed.earlier + value;
+        if (next < due) {
+            at(x, due - 1, timed.command[0], timed.command[1], 0, timed.rule);
+        }
+        at(x, Math.max(next, due), timed.command[0], timed.command[1], 0, 0);
+    }
+
     /** Where there was no such command before, its time is not asked for, in early cycles too. */
     private static void noTimeIsBehindNoCommand() {
         for (int which = 0; which < 10; which++) {
@@ -259,6 +323,66 @@ public final class RulesTest {
             at(x, 1, CLOSE, 0, 0, 0);
             at(x, 2, REFRESH, 0, 0, 0);
         }
+    }
+
+    /** "(if there was one)": one of another bank, of another kind or refused is none. */
+    private static void commandsOfOthersDoNotCount() {
+        BankScheduler rule2 = with(1, 20);
+        at(rule2, 0, OPEN, 1, 0, 0);
+        at(rule2, 1, CLOSE, 1, 0, 0);
+        at(rule2, 2, OPEN, 0, 0, 0);
+        BankScheduler rule3 = with(3, 20);
+        at(rule3, 0, OPEN, 1, 0, 0);
+        at(rule3, 1, OPEN, 0, 0, 0);
+        BankScheduler rule4 = with(7, 20);
+        at(rule4, 0, OPEN, 0, 0, 0);
+        at(rule4, 1, CLOSE, 0, 0, 0);
+        at(rule4, 2, OPEN, 0, 0, 0);
+        BankScheduler rule5 = with(8, 20);
+        at(rule5, 0, OPEN, 0, 0, 0);
+        at(rule5, 1, OPEN, 0, 0, 1);
+        at(rule5, 2, OPEN, 1, 0, 0);
+        at(rule5, 3, OPEN, 2, 0, 0);
+        at(rule5, 4, OPEN, 3, 0, 0);
+        at(rule5, 5, OPEN, 4, 0, 5);
+        BankScheduler rule6 = with(9, 20);
+        at(rule6, 0, OPEN, 0, 0, 0);
+        at(rule6, 1, REFRESH, 0, 0, 14);
+        at(rule6, 2, OPEN, 1, 0, 0);
+        BankScheduler rule8 = with(2, 20);
+        at(rule8, 0, OPEN, 0, 0, 0);
+        at(rule8, 19, OPEN, 1, 0, 0);
+        at(rule8, 20, CLOSE, 0, 0, 0);
+        BankScheduler rule9 = with(4, 20);
+        at(rule9, 0, OPEN, 0, 0, 0);
+        at(rule9, 1, OPEN, 1, 0, 0);
+        at(rule9, 2, WRITE, 1, 0, 0);
+        at(rule9, 3, WRITE, 0, 1, 11);
+        at(rule9, 4, READ, 0, 0, 0);
+        at(rule9, 5, CLOSE, 0, 0, 0);
+        BankScheduler rule10 = with(5, 20);
+        at(rule10, 0, OPEN, 0, 0, 0);
+        at(rule10, 1, OPEN, 1, 0, 0);
+        at(rule10, 2, READ, 1, 0, 0);
+        at(rule10, 3, READ, 0, 1, 11);
+        at(rule10, 4, WRITE, 0, 0, 0);
+        at(rule10, 5, CLOSE, 0, 0, 0);
+        BankScheduler rule12 = with(0, 20);
+        at(rule12, 0, OPEN, 0, 0, 0);
+        at(rule12, 19, OPEN, 1, 0, 0);
+        at(rule12, 20, READ, 0, 0, 0);
+        BankScheduler rule13 = with(6, 20);
+        at(rule13, 0, OPEN, 0, 0, 0);
+        at(rule13, 1, READ, 0, 1, 11);
+        at(rule13, 2, WRITE, 0, 0, 0);
+        BankScheduler rule15 = with(1, 20);
+        at(rule15, 0, CLOSE, 0, 0, 7);
+        at(rule15, 1, REFRESH, 0, 0, 0);
+        BankScheduler rule16 = with(9, 20);
+        at(rule16, 0, OPEN, 0, 0, 0);
+        at(rule16, 1, REFRESH, 0, 0, 14);
+        at(rule16, 2, CLOSE, 0, 0, 0);
+        at(rule16, 3, REFRESH, 0, 0, 0);
     }
 
     /** Six rules are broken at once, and end one after the other. */

@@ -385,7 +385,7 @@ public final class BankScheduler {
         int cameIn;
     }
 
-    /** Banks with a cycle of their own and what the rules must know of the commands given to them. */
+    /** Banks with a cycle of their own, and what the rules ask of the commands given to them. */
     private static final class Channel {
         final int[] times;
         final int[] openRow;

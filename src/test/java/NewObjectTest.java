@@ -113,7 +113,7 @@ public final class NewObjectTest {
         }
     }
 
-    /** "and at most 1000": request 9 is given in cycle 1000; see slowOnes(). */
+    /** "and at most 1000": request 9 is given in cycle 1000; see lateOfSlowOnes(). */
     private static void patienceIsAtMostThousand() {
         for (int patience : new int[] {999, 1000, 1001, 2000, HIGH}) {
             DUE.answer("1000 behind, patience " + patience, lateOfSlowOnes(patience, 12), 3);
@@ -219,9 +219,9 @@ public final class NewObjectTest {
 
     /** "each with 16 ROWS of 8 WORDS, ints, at first 0" */
     private static void wordsAreZeroAtFirst() {
-        for (int half = 0; half < 4; half++) {
+        for (int quarter = 0; quarter < 4; quarter++) {
             BankScheduler x = new BankScheduler(8, 3, 3);
-            for (int place = 256 * half; place < 256 * (half + 1); place++) {
+            for (int place = 256 * quarter; place < 256 * (quarter + 1); place++) {
                 DUE.answer("word " + place, x.word(place / 128, place / 8 % 16, place % 8), 0);
             }
         }

@@ -45,6 +45,43 @@ public final class RulesTest {
         new Timed(16, 9, 0, new int[][] {{REFRESH, 0}}, new int[] {REFRESH, 0}),
     };
 
+    /** The same, where other commands were given since; for some of these a time is set later. */
+    private static final Timed[] TIMED_WITH_OTHERS_SINCE = {
+        new Timed(2, 1, 1, new int[][] {{OPEN, 0}, {CLOSE, 0}, {OPEN, 1}, {WRITE, 1}, {READ, 1},
+                {CLOSE, 1}, {REFRESH, 0}}, new int[] {OPEN, 0}),
+        new Timed(3, 3, 0, new int[][] {{OPEN, 0}, {WRITE, 0}, {READ, 0}, {CLOSE, 0}, {REFRESH, 0},
+                {OPEN, 1}, {CLOSE, 1}}, new int[] {OPEN, 0}),
+        new Timed(4, 7, 0, new int[][] {{OPEN, 1}, {WRITE, 1}, {READ, 1}, {CLOSE, 1}, {REFRESH, 0}},
+                new int[] {OPEN, 0}),
+        new Timed(4, 7, 0, new int[][] {{OPEN, 1}, {OPEN, 0}, {CLOSE, 0}}, new int[] {OPEN, 0}),
+        new Timed(4, 7, 1, new int[][] {{OPEN, 1}, {OPEN, 2}}, new int[] {OPEN, 0}),
+        new Timed(4, 7, 1, new int[][] {{OPEN, 2}, {OPEN, 1}}, new int[] {OPEN, 0}),
+        new Timed(5, 8, 0, new int[][] {{OPEN, 1}, {OPEN, 2}, {OPEN, 3}, {OPEN, 4}, {READ, 1},
+                {WRITE, 2}, {CLOSE, 1}, {CLOSE, 2}, {CLOSE, 3}, {CLOSE, 4}, {REFRESH, 0}},
+                new int[] {OPEN, 0}),
+        new Timed(6, 9, 0, new int[][] {{REFRESH, 0}, {OPEN, 1}, {READ, 1}, {WRITE, 1}, {CLOSE, 1}},
+                new int[] {OPEN, 0}),
+        new Timed(8, 2, 0, new int[][] {{OPEN, 0}, {READ, 0}, {WRITE, 0}, {OPEN, 1}, {CLOSE, 1}},
+                new int[] {CLOSE, 0}),
+        new Timed(9, 4, 1, new int[][] {{OPEN, 0}, {WRITE, 0}, {READ, 0}, {OPEN, 1}, {WRITE, 1},
+                {CLOSE, 1}}, new int[] {CLOSE, 0}),
+        new Timed(9, 4, 1, new int[][] {{OPEN, 0}, {WRITE, 0}, {CLOSE, 0}, {REFRESH, 0}, {OPEN, 0}},
+                new int[] {CLOSE, 0}),
+        new Timed(10, 5, 1, new int[][] {{OPEN, 0}, {READ, 0}, {WRITE, 0}, {OPEN, 1}, {READ, 1},
+                {CLOSE, 1}}, new int[] {CLOSE, 0}),
+        new Timed(10, 5, 1, new int[][] {{OPEN, 0}, {READ, 0}, {CLOSE, 0}, {REFRESH, 0}, {OPEN, 0}},
+                new int[] {CLOSE, 0}),
+        new Timed(12, 0, 0, new int[][] {{OPEN, 0}, {OPEN, 1}, {READ, 1}, {WRITE, 0}, {CLOSE, 1}},
+                new int[] {READ, 0}),
+        new Timed(13, 6, 1, new int[][] {{OPEN, 0}, {READ, 0}, {CLOSE, 0}, {REFRESH, 0}, {OPEN, 0}},
+                new int[] {WRITE, 0}),
+        new Timed(13, 6, 1, new int[][] {{OPEN, 0}, {WRITE, 0}, {CLOSE, 0}, {REFRESH, 0}, {OPEN, 1}},
+                new int[] {READ, 1}),
+        new Timed(15, 1, 1, new int[][] {{OPEN, 0}, {CLOSE, 0}, {REFRESH, 0}}, new int[] {REFRESH, 0}),
+        new Timed(16, 9, 0, new int[][] {{REFRESH, 0}, {OPEN, 1}, {READ, 1}, {CLOSE, 1}},
+                new int[] {REFRESH, 0}),
+    };
+
     public static void main(String[] args) {
         rule1();
         rule2();
@@ -284,8 +321,11 @@ public final class RulesTest {
 
     /** "at least so many cycles (a time) behind": a cycle less is too soon, for all of 1 .. 20. */
     private static void everyValueOfEveryTime() {
-        for (Timed timed : TIMED) {
-            for (int value = 1; value <= 20; value++) {
+        for (int value = 1; value <= 20; value++) {
+            for (Timed timed : TIMED) {
+                justInTime(timed, value);
+            }
+            for (Timed timed : TIMED_WITH_OTHERS_SINCE) {
                 justInTime(timed, value);
             }
         }

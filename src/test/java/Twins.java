@@ -63,8 +63,8 @@ final class Twins {
     }
 
     private void askController(String what) {
-        for (int what2 = 0; what2 < 9; what2++) {
-            int f = what2;
+        for (int number = 0; number < 9; number++) {
+            int f = number;
             both(what + ", figure(" + f + ")", x -> x.figure(f));
         }
         for (int bank = 0; bank < banks; bank++) {

@@ -11,7 +11,10 @@ import java.util.Map;
 import java.util.regex.Matcher;
 import java.util.regex.Pattern;
 
-/** What README.md tells of the class is so: its example, its tables, its list of the tests. */
+/**
+ * README.md against the class: its example, the values of its times, and that each method and each
+ * test has a line; what a method's line says is for a reader to see.
+ */
 public final class ReadmeTest {
     private static final Pattern MADE = Pattern.compile(
             "BankScheduler memory = new BankScheduler\\((\\d+), (\\d+), (\\d+)\\);.*");
